@@ -22,7 +22,7 @@ public final class ComparedTest {
     }
 
     public static void main(String[] args) {
-        int runs = args.length > 0 ? Integer.parseInt(args[0]) : 250;
+        int runs = args.length > 0 ? Integer.parseInt(args[0]) : 4000;
         int first = args.length > 1 ? Integer.parseInt(args[1]) : 0;
         int wrong = 0;
         long calls = 0;
@@ -45,9 +45,14 @@ public final class ComparedTest {
     }
 
     private void go() {
+        for (int k = r.nextInt(4); k > 0; k--) change("known");
+        for (int k = r.nextInt(r.nextInt(2) == 0 ? 12 : 2); k > 0; k--) change("hands");
+        for (int k = r.nextInt(10); k > 0; k--) change("promise");
+        for (int k = r.nextInt(4) == 0 ? 8 : 0; k > 0; k--) change("swap");
+        for (int k = 0; k < 3; k++) change("put");
         int steps = 30 + r.nextInt(40);
         for (int k = 0; k < steps && wrong == 0 && calls < 480; k++) {
-            if (r.nextInt(5) < 2) {
+            if (r.nextInt(4) == 0) {
                 change(CHANGES[r.nextInt(CHANGES.length)]);
             } else {
                 ask(QUESTIONS[r.nextInt(QUESTIONS.length)]);
@@ -56,10 +61,28 @@ public final class ComparedTest {
         for (int what = 0; what <= 18; what++) same("status", x.status(what), y.status(what));
     }
 
+    private void hour() {
+        int set = r.nextInt(3) == 0 ? r.nextInt(64) : 0;
+        if (r.nextBoolean() && y.now < 12 && y.kept(y.everyone(), y.turned)) {
+            set = y.hour(y.turned, y.now);
+            same("hour now", x.hour(y.turned, y.now), set);
+        } else if (r.nextBoolean()) {
+            set = 1 << r.nextInt(9);
+        }
+        if (r.nextInt(40) == 0) set = -1 - r.nextInt(3);
+        same("work(" + set + ")", x.work(set), y.work(set));
+    }
+
     /** Most often from 0 to below the bound, now and then beside it. */
     private int some(int bound) {
         int odd = r.nextInt(40);
         return odd == 0 ? -1 - r.nextInt(2) : odd == 1 ? bound + r.nextInt(3) : r.nextInt(Math.max(bound, 1));
+    }
+
+    private int someWork() {
+        int n = some(y.all.size());
+        for (int k = 0; k < 4 && !y.workThere(n) && r.nextInt(9) > 0; k++) n = some(y.all.size());
+        return n;
     }
 
     private int someSmall(int bound) {
@@ -109,22 +132,16 @@ public final class ComparedTest {
                 break;
             }
             case "swap": {
-                int b = r.nextInt(3) == 0 ? -1 : some(y.all.size());
-                same("swap", x.swap(a, b), y.swap(a, b));
+                int n = someWork(), b = r.nextInt(4) == 0 ? -1 : someWork();
+                same("swap", x.swap(n, b), y.swap(n, b));
                 break;
             }
-            case "work": {
-                int set = r.nextInt(3) == 0 ? r.nextInt(64) : 0;
-                if (r.nextBoolean() && y.now < 12 && y.kept(y.everyone(), y.turned)) {
-                    set = y.hour(y.turned, y.now);
-                    same("hour now", x.hour(y.turned, y.now), set);
-                }
-                if (r.nextInt(40) == 0) set = -1 - r.nextInt(3);
-                same("work(" + set + ")", x.work(set), y.work(set));
+            case "work":
+                for (int k = r.nextInt(4); k >= 0; k--) hour();
                 break;
-            }
             case "mend": {
                 int how = some(3);
+                for (int n = 0; n < y.all.size(); n++) if (y.all.get(n).lost && r.nextBoolean()) a = n;
                 same("mend", x.mend(a, how), y.mend(a, how));
                 break;
             }
@@ -192,7 +209,7 @@ public final class ComparedTest {
     }
 
     private void ask(String what) {
-        int a = some(y.all.size()), o = some(8), h = some(12), s = some(8);
+        int a = r.nextInt(4) == 0 ? some(y.all.size()) : someWork(), o = some(8), h = some(12), s = some(8);
         switch (what) {
             case "can": same("can(" + o + ")", x.can(o), y.can(o)); break;
             case "hour": same("hour(" + o + ", " + h + ")", x.hour(o, h), y.hour(o, h)); break;

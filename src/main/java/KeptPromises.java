@@ -1245,6 +1245,7 @@ public final class KeptPromises {
         private static final int PLACES = (1 << MOST_WORKS) - 1;
         private static final int CARED = MOST_WORKS;
         private static final int SURELY = 2 * MOST_WORKS;
+        private static final int FRESH = 3 * MOST_WORKS;
         private static final int UNASKED = 0;
         private static final int MAYBE = 1;
         private static final int SURE = 2;
@@ -1265,7 +1266,10 @@ public final class KeptPromises {
         private final int[] afterPlace = new int[MOST_WORKS];
         private final int[] order = new int[MOST_WORKS];
         private final int[] deadline = new int[MOST_WORKS];
-        /** By group and hour: places that may be open; that are asked, perhaps; that surely are. */
+        /**
+         * By group and hour, six bits each: places that may be open; that are asked, perhaps; that
+         * surely are; and the forks that get known in the hour.
+         */
         private final int[] standings = new int[OUTCOMES * HOURS];
         /** By place and hour: how much has to be left as it begins (NONE: any), and as it ends. */
         private final int[] leftAhead = new int[MOST_WORKS * HOURS];
@@ -1287,15 +1291,20 @@ public final class KeptPromises {
             if (hopeless || deal.now >= HOURS) {
                 return;
             }
-            findAfters();
+            findAfters(deal.ringOnes());
             findSameThings();
             findDeadlines();
             for (int h = deal.now; h < HOURS; h++) {
                 fillLefts(h);
+                int fresh = groups > 1 ? freshForks(h) << FRESH : 0;
                 for (int g = 0; g < groups; g++) {
-                    standings[g * HOURS + h] = standingsIn(g, h);
+                    standings[g * HOURS + h] = fresh | standingsIn(g, h, closedPlaces(g, h));
                 }
             }
+            makeReady();
+        }
+
+        private void makeReady() {
             countRoom();
             hopeless = groups == 1 && lacksHours();
             if (!hopeless) {
@@ -1341,8 +1350,7 @@ public final class KeptPromises {
             return NEVER_OPEN;
         }
 
-        private void findAfters() {
-            int ring = deal.ringOnes();
+        private void findAfters(int ring) {
             for (int p = 0; p < places; p++) {
                 int i = number[p];
                 int other = deal.after[i];
@@ -1407,8 +1415,7 @@ public final class KeptPromises {
             }
         }
 
-        private int standingsIn(int group, int hour) {
-            int closed = closedPlaces(group, hour);
+        private int standingsIn(int group, int hour, int closed) {
             int all = 0;
             for (int p = 0; p < places; p++) {
                 int i = number[p];
@@ -1439,6 +1446,14 @@ public final class KeptPromises {
                 }
             }
             return closed;
+        }
+
+        private int freshForks(int hour) {
+            int fresh = 0;
+            for (int f = 0; f < FORKS; f++) {
+                fresh |= deal.knownFrom[f] == hour ? 1 << f : 0;
+            }
+            return fresh & deal.forksInUse();
         }
 
         /** How many works may be done from now on till ahead of each hour, at the most. */
@@ -1483,7 +1498,7 @@ public final class KeptPromises {
         /** A work is to be done first in that hour; false: it can't be. */
         private boolean pin(int i, int hour) {
             int p = placeOf(i);
-            if (p < 0 || hour < deal.now || hour >= HOURS) {
+            if (hopeless || p < 0 || hour < deal.now || hour >= HOURS) {
                 return false;
             }
             pinHour = hour;
@@ -1491,6 +1506,7 @@ public final class KeptPromises {
             for (int h = deal.now; h < hour; h++) {
                 standings[h] &= ~pinBit;
             }
+            makeReady();
             return true;
         }
 
@@ -1516,27 +1532,23 @@ public final class KeptPromises {
             if ((marks[half + word] & bit) != 0) {
                 return false;
             }
-            boolean won = lastChoice(hour, group, state) != NONE;
+            int moves = movesIn(hour, group, state);
+            boolean won = moves != NONE && winsBy(moves, hour, group, state);
             marks[won ? word : half + word] |= bit;
             return won;
         }
 
-        /** Some set (by its place among the sets) that wins; NONE: there is none. */
-        private int lastChoice(int hour, int group, int state) {
-            int moves = movesIn(hour, group, state);
-            if (moves == NONE) {
-                return NONE;
-            }
+        private boolean winsBy(int moves, int hour, int group, int state) {
             // Doing much early wins most often, so the larger sets go first.
             for (int k = places * (places + 1) / 2; k >= 0; k--) {
                 if (isMove(k, moves, hour) && follows(hour, group, state - TAKES[k])) {
-                    return k;
+                    return true;
                 }
             }
-            return NONE;
+            return false;
         }
 
-        /** The least set, from one on, that wins. */
+        /** The least set (by its place among the sets), from one on, that wins. */
         private int nextChoice(int hour, int group, int state, int least) {
             int moves = movesIn(hour, group, state);
             if (moves == NONE) {
@@ -1559,10 +1571,13 @@ public final class KeptPromises {
 
         /** Whether all goes well, whatever the forks tell that get known in the next hour. */
         private boolean follows(int hour, int group, int state) {
-            if (groups == 1) {
+            if (hour + 1 >= HOURS) {
+                return true;
+            }
+            int fresh = standings[group * HOURS + hour + 1] >> FRESH;
+            if (fresh == 0) {
                 return wins(hour + 1, group, state);
             }
-            int fresh = freshForks(hour + 1);
             for (int news = 0; news < OUTCOMES; news++) {
                 if ((news & ~fresh) == 0 && !wins(hour + 1, group | news, state)) {
                     return false;
@@ -1571,18 +1586,10 @@ public final class KeptPromises {
             return true;
         }
 
-        private int freshForks(int hour) {
-            int fresh = 0;
-            for (int f = 0; f < FORKS; f++) {
-                fresh |= deal.knownFrom[f] == hour ? 1 << f : 0;
-            }
-            return fresh & deal.forksInUse();
-        }
-
         /** The open places, and six bits higher those that must be done; NONE: all fails. */
         private int movesIn(int hour, int group, int state) {
             int stands = standings[group * HOURS + hour];
-            if (!hasRoom(hour, stands >> SURELY, state)) {
+            if (!hasRoom(hour, (stands >> SURELY) & PLACES, state)) {
                 return NONE;
             }
             int open = 0;
@@ -1607,16 +1614,26 @@ public final class KeptPromises {
             return (forced & ~open) == 0 ? open | (forced << MOST_WORKS) : NONE;
         }
 
-        /** Whether the works that are asked can still find hands before their last hours. */
+        /** Whether the works that are asked can still find hands and things before it's too late. */
         private boolean hasRoom(int hour, int asked, int state) {
             int sum = 0;
+            int sumsByThing = 0;
             for (int k = 0; k < places; k++) {
                 int p = order[k];
                 int left = (state >> (2 * p)) & 3;
-                if (left > 0 && ((asked >> p) & 1) != 0) {
-                    int last = deadline[p];
-                    sum += left;
-                    if (left > last - hour + 1 || sum > roomBefore[last + 1] - roomBefore[hour]) {
+                if (left == 0 || ((asked >> p) & 1) == 0) {
+                    continue;
+                }
+                int last = deadline[p];
+                int hours = last - hour + 1;
+                sum += left;
+                if (left > hours || sum > roomBefore[last + 1] - roomBefore[hour]) {
+                    return false;
+                }
+                int thing = deal.thing[number[p]];
+                if (thing != NONE) {
+                    sumsByThing += left << (5 * thing);
+                    if (((sumsByThing >> (5 * thing)) & 31) > hours) {
                         return false;
                     }
                 }
@@ -1687,27 +1704,40 @@ public final class KeptPromises {
 
         /**
          * A work that gets lost in the end may as well not be done at all (that leaves more room
-         * for the others), so it is enough to try whom to leave out. Those left out ahead are
-         * tried first: if the rest can't be kept then, no less will do.
+         * for the others), so it is enough to try whom to give up. One way of which no single one
+         * can be spared is found first, for a price to beat. Then the larger ways go ahead of the
+         * smaller: where a way doesn't do, no part of it will.
          */
         private int least(Deal deal, Search search, int outcome, boolean each) {
             int base = findThoseToBreak(deal, outcome, each);
             int full = (1 << count) - 1;
-            int best = priceOf(full);
+            int way = full;
+            for (int k = 0; k < count; k++) {
+                int less = way & ~(1 << k);
+                if (isWholeChoice(deal, less) && suffices(deal, search, outcome, less)) {
+                    way = less;
+                }
+            }
+            int best = priceOf(way);
             fails[full] = false;
             for (int set = full - 1; set >= 0; set--) {
                 fails[set] = isInFailing(set, full);
                 if (fails[set] || priceOf(set) >= best || !isWholeChoice(deal, set)) {
                     continue;
                 }
-                search.prepare(deal, deal.everyone() & ~deal.lostOnes & ~promisesOf(set), 1, outcome);
-                if (search.succeeds()) {
+                if (suffices(deal, search, outcome, set)) {
                     best = priceOf(set);
                 } else {
                     fails[set] = true;
                 }
             }
             return base + best;
+        }
+
+        private boolean suffices(Deal deal, Search search, int outcome, int set) {
+            int rest = deal.everyone() & ~deal.lostOnes & ~promisesOf(set);
+            search.prepare(deal, rest, 1, outcome);
+            return search.succeeds();
         }
 
         /** Fills the list, and answers what is owed already. */
