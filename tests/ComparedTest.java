@@ -21,6 +21,34 @@ public final class ComparedTest {
         this.r = new Random(run);
     }
 
+    /** Few hours, many forks that get known as they go by. */
+    private void unsure() {
+        for (int f = 0; f < 3; f++) {
+            int h = r.nextInt(5);
+            same("known", x.known(f, h), y.known(f, h));
+            int v = r.nextInt(2);
+            same("turn", x.turn(f, v), y.turn(f, v));
+        }
+        for (int h = 0; h < 6; h++) {
+            int n = r.nextInt(4) == 0 ? 2 : 1;
+            same("hands", x.hands(h, n), y.hands(h, n));
+        }
+        for (int k = 3 + r.nextInt(5); k > 0; k--) {
+            write(0, 0, Texts.unsure(r, y.all.size()));
+            same("promise", x.promise(0), y.promise(0));
+            same("all", x.all(), y.all());
+            same("begin", x.begin(), y.begin());
+        }
+        for (int h = 0; h < 3; h++) {
+            int set = Math.max(0, y.begin());
+            same("begin", x.begin(), y.begin());
+            same("work", x.work(set), y.work(set));
+            write(0, 0, Texts.unsure(r, y.all.size()));
+            same("give", x.give(0), y.give(0));
+            same("many", x.many(0), y.many(0));
+        }
+    }
+
     public static void main(String[] args) {
         int runs = args.length > 0 ? Integer.parseInt(args[0]) : 4000;
         int first = args.length > 1 ? Integer.parseInt(args[1]) : 0;
@@ -28,7 +56,8 @@ public final class ComparedTest {
         long calls = 0;
         for (int run = first; run < first + runs; run++) {
             ComparedTest t = new ComparedTest(run);
-            t.go();
+            if (run % 4 == 3) t.unsure();
+            else t.go();
             wrong += t.wrong;
             calls += t.calls;
         }

@@ -28,6 +28,7 @@ public final class PromisesTest {
         knownForks();
         kinds();
         bearing();
+        unsure();
         quarrels();
         owing();
         endsAndMust();
@@ -508,6 +509,51 @@ public final class PromisesTest {
         due("all() told at once", z.all(), 1);
     }
 
+    private static void unsure() {
+        String first = "do 1 from 0 to 1";
+        for (int f = 0; f < 3; f++) {
+            for (int v = 0; v < 2; v++) {
+                String fork = " if " + f + "=" + v;
+                KeptPromises x = with(first, "do 1 from 1 to 1" + fork, "free from 1 to 1 if " + f + "=" + (1 - v));
+                x.known(f, 1);
+                about = 19;
+                due("begin() by" + fork, x.begin(), 1);
+                x.hands(0, 0);
+                about = 18;
+                due("all() by" + fork, x.all(), 0);
+                KeptPromises y = with(first, "once 2 from 1 to 3" + fork, "do 1 from 1 to 3");
+                y.known(f, 1);
+                about = 19;
+                due("begin() by" + fork, y.begin(), 1);
+                y.known(f, 2);
+                y.hands(0, 0);
+                about = 18;
+                due("all() by" + fork, y.all(), 0);
+                y.hands(3, 2);
+                due("all() by" + fork, y.all(), 1);
+            }
+        }
+        for (int v = 0; v < 4; v++) {
+            KeptPromises x = with("do 1 from 0 to 1", "do 1 from 1 to 2 if 0=" + (v & 1), "do 1 from 1 to 2 if 1=" + (v >> 1));
+            x.known(0, 1);
+            x.known(1, 1);
+            about = 18;
+            due("all() by two forks at once", x.all(), 1);
+            about = 19;
+            due("begin() by two forks at once", x.begin(), 1);
+            x.hands(0, 0);
+            about = 18;
+            due("all() by two forks at once", x.all(), 0);
+            x.hands(0, 1);
+            x.known(1, 2);
+            due("all() by two forks one after the other", x.all(), 1);
+            Texts.promise(x, "never 0 from 2 to 2 if 1=" + (v >> 1));
+            due("all() with a never", x.all(), 1);
+            Texts.promise(x, "free from 2 to 2 if 0=" + (v & 1));
+            due("all() with a free", x.all(), 0);
+        }
+    }
+
     private static void quarrels() {
         about = 21;
         KeptPromises x = with("do 1 from 0 to 0", "do 1 from 1 to 1", "do 1 from 1 to 1", "free from 0 to 0 if 0=1");
@@ -750,6 +796,19 @@ public final class PromisesTest {
             hour(x, 2, rows[i]);
             due("judge of row " + i, x.judge(6, 0), why[i]);
         }
+        KeptPromises two = with("do 1 from 0 to 4 with 0", "do 1 from 0 to 4 with 1", "never 0 from 0 to 0 owe 1",
+            "never 1 from 0 to 0 owe 2", "free from 2 to 3 owe 4");
+        two.hands(0, 2);
+        hour(two, 2, 3, 0, 1, 2);
+        due("judge of two things", two.judge(6, 0), 5);
+        due("lost of two things", two.lost(6, 0), 31);
+        due("owed of two things", two.owed(6, 0, 0), 7);
+        KeptPromises free = with("do 1 from 0 to 4", "free from 1 to 1", "free from 1 to 2", "never 0 from 1 to 1");
+        hour(free, 2, 1, 0, 1);
+        due("judge of a free one", free.judge(6, 0), 21);
+        hour(free, 2, 0, 1, 1, 1);
+        due("judge of free ones", free.judge(6, 0), 14);
+        due("lost of free ones", free.lost(6, 0), 6);
         hour(x, 0, 0, 0, 0, 1);
         x.hands(3, 0);
         due("judge without hands", x.judge(6, 0), 32);

@@ -41,6 +41,19 @@ final class Texts {
         return b.toString();
     }
 
+    /** A promise of the first hours, most often with a fork. */
+    static String unsure(Random r, int named) {
+        String[] heads = {"do 1", "do 1", "do 2", "whole 2", "again 2", "again 3", "once 1", "never 0", "free"};
+        int kind = r.nextInt(heads.length);
+        int p = kind == 6 ? 1 + r.nextInt(4) : r.nextInt(4);
+        int q = kind >= 7 ? p : p + 1 + r.nextInt(4);
+        StringBuilder b = new StringBuilder(heads[kind]).append(" from ").append(p).append(" to ").append(q);
+        if (kind < 7 && r.nextInt(3) == 0) b.append(" with 0");
+        if (kind < 7 && named > 0 && r.nextInt(3) == 0) b.append(" after ").append(r.nextInt(named));
+        if (kind == 6 || r.nextInt(3) > 0) b.append(" if ").append(r.nextInt(3)).append("=").append(r.nextInt(2));
+        return b.toString();
+    }
+
     private static int few(Random r) {
         return r.nextInt(8) == 0 ? 2 + r.nextInt(2) : r.nextInt(2);
     }

@@ -1155,25 +1155,20 @@ public final class KeptPromises {
             return kind == AGAIN ? spansTill(last) <= MOST_SPANS : last - from + 1 >= number;
         }
 
-        private boolean readExtras(Deal deal) {
+        private void readExtras(Deal deal) {
             int latest = 0;
-            for (int i = 0; i < FOR && latest < FOR && at < end; i++) {
-                if (!reads(" ")) {
-                    return false;
-                }
+            for (int i = 0; i < FOR && latest < FOR && at < end && reads(" "); i++) {
                 int extra = extraAt(at);
                 if (extra <= latest || !mayFollow(latest, extra)) {
-                    return isBadAt(at);
+                    bad = at;
+                    return;
                 }
-                if (!readExtra(deal, extra)) {
-                    return false;
-                }
-                latest = extra;
+                readExtra(deal, extra);
+                latest = bad == NONE ? extra : FOR;
             }
-            if (at < end || (kind == ONCE && fork == NONE)) {
-                return isBadAt(at);
+            if (bad == NONE && (at < end || (kind == ONCE && fork == NONE))) {
+                bad = at;
             }
-            return true;
         }
 
         private int extraAt(int place) {
@@ -1194,7 +1189,7 @@ public final class KeptPromises {
             return kind != ONCE || latest >= IF || extra <= IF;
         }
 
-        private boolean readExtra(Deal deal, int extra) {
+        private void readExtra(Deal deal, int extra) {
             switch (extra) {
                 case WITH:
                     thing = reads("with ") ? numberOf(1, 0, THINGS - 1) : NONE;
@@ -1213,7 +1208,6 @@ public final class KeptPromises {
                     whom = reads("for ") ? numberOf(1, 0, PEOPLE - 1) : 0;
                     break;
             }
-            return bad == NONE;
         }
 
         private void readAfter(Deal deal) {
