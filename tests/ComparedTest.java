@@ -9,6 +9,9 @@ public final class ComparedTest {
         "known", "known", "turn", "swap", "work", "work", "mend", "image", "restore", "put", "copy", "set",
         "row", "told"};
 
+    /** What later calls of an object answer is free; the last step and the end take fewer than 100. */
+    private static final int MOST_CALLS = 512;
+
     private final Random r;
     private final int run;
     private final KeptPromises x = new KeptPromises();
@@ -33,7 +36,7 @@ public final class ComparedTest {
             int n = r.nextInt(4) == 0 ? 2 : 1;
             same("hands", x.hands(h, n), y.hands(h, n));
         }
-        for (int k = 3 + r.nextInt(5); k > 0; k--) {
+        for (int k = 3 + r.nextInt(5); k > 0 && calls < 260; k--) {
             write(0, 0, Texts.unsure(r, y.all.size()));
             same("promise", x.promise(0), y.promise(0));
             same("all", x.all(), y.all());
@@ -50,7 +53,7 @@ public final class ComparedTest {
     }
 
     public static void main(String[] args) {
-        int runs = args.length > 0 ? Integer.parseInt(args[0]) : 4000;
+        int runs = args.length > 0 ? Integer.parseInt(args[0]) : 6000;
         int first = args.length > 1 ? Integer.parseInt(args[1]) : 0;
         int wrong = 0;
         long calls = 0;
@@ -60,6 +63,7 @@ public final class ComparedTest {
             else t.go();
             wrong += t.wrong;
             calls += t.calls;
+            if (t.calls > MOST_CALLS) throw new IllegalStateException("run " + run + " has " + t.calls + " calls");
         }
         System.out.println("ComparedTest: " + calls + " calls compared, " + wrong + " wrong");
         if (wrong > 0 || calls == 0) System.exit(1);
@@ -76,11 +80,11 @@ public final class ComparedTest {
     private void go() {
         for (int k = r.nextInt(4); k > 0; k--) change("known");
         for (int k = r.nextInt(r.nextInt(2) == 0 ? 12 : 2); k > 0; k--) change("hands");
-        for (int k = r.nextInt(10); k > 0; k--) change("promise");
+        for (int k = r.nextInt(10); k > 0 && calls < 260; k--) change("promise");
         for (int k = r.nextInt(4) == 0 ? 8 : 0; k > 0; k--) change("swap");
         for (int k = 0; k < 3; k++) change("put");
         int steps = 30 + r.nextInt(40);
-        for (int k = 0; k < steps && wrong == 0 && calls < 480; k++) {
+        for (int k = 0; k < steps && wrong == 0 && calls < MOST_CALLS - 100; k++) {
             if (r.nextInt(4) == 0) {
                 change(CHANGES[r.nextInt(CHANGES.length)]);
             } else {
@@ -122,9 +126,14 @@ public final class ComparedTest {
         same("row", x.row(s, sort, text.length()), y.row(s, sort, text.length()));
         for (int i = 0; i < text.length(); i++) {
             long v = text.charAt(i) + (sort == 3 && r.nextInt(9) == 0 ? 1L << 33 : 0);
-            x.set(s, i, v);
-            y.set(s, i, v);
+            put(s, i, v);
         }
+    }
+
+    private void put(int s, int i, long v) {
+        calls++;
+        x.set(s, i, v);
+        y.set(s, i, v);
     }
 
     private int textShelf() {
@@ -228,8 +237,7 @@ public final class ComparedTest {
             if (r.nextInt(4) == 0) v = 1L << r.nextInt(9);
             if (good && h < 12 && r.nextInt(6) > 0) v = y.hour(o, h);
             if (r.nextInt(60) == 0) v = r.nextLong();
-            x.set(s, h, v);
-            y.set(s, h, v);
+            put(s, h, v);
         }
         int t = r.nextInt(12) == 0 ? some(8) : s;
         same("judge", x.judge(t, o), y.judge(t, o));

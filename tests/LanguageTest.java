@@ -48,7 +48,7 @@ public final class LanguageTest {
             check(Modifier.isPrivate(f.getModifiers()) || f.getName().equals("NONE"), "rule 1: field " + f.getName());
         }
         check(c.getDeclaredConstructors().length == 1, "rule 1: one constructor");
-        check(c.getDeclaredClasses().length <= 12, "rule 11: twelve classes");
+        check(c.getDeclaredClasses().length <= 12, "rule 11: some twelve classes");
         both(c);
     }
 
@@ -87,12 +87,15 @@ public final class LanguageTest {
             String code = line.replaceAll("\"[^\"]*\"", "\"\"").replaceAll("//.*", "");
             boolean comment = line.trim().startsWith("*") || line.trim().startsWith("/*");
             if (comment) continue;
-            for (String not : List.of("->", "::", "throw", "catch", "try ", "finally", "synchronized", "assert",
-                "instanceof", "static {", "\" +", "+ \"", "float", "double", "var ", "protected", "package ")) {
+            for (String not : List.of("::", "finally", "synchronized", "assert ", "static {", "\" +", "+ \"", "volatile",
+                "protected ", "package ", "var ", "Exact(", "Throwable", "(Exception ", "NullPointerException", "ClassCastException",
+                "ArrayIndexOutOfBoundsException", "NegativeArraySizeException", "ArrayStoreException")) {
                 check(!code.contains(not), "line " + (i + 1) + " has " + not);
             }
-            check(!code.startsWith("import ") || code.equals("import java.util.Arrays;"), "rule 4: " + code);
-            check(line.length() <= 110, "line " + (i + 1) + " is long");
+            boolean lambda = code.contains("->") && !code.trim().matches("(case|default)\\b.*");
+            check(!lambda, "rule 2: a lambda in line " + (i + 1));
+            check(!code.startsWith("import ") || code.matches("import java\\.util\\.(Arrays|ArrayList|List|Iterator|NoSuchElementException);"),
+                "rule 4: " + code);
             if (code.matches("    (    )?(private|public) .*\\) \\{")) start = i;
             if (code.matches("    (    )?\\}")) check(i - start <= 60, "rule 11: the method at line " + (start + 1));
         }

@@ -245,6 +245,7 @@ public final class PromisesTest {
         read(x, "do 1 fron", -6, 8);
         read(x, "do 1 from", -6, 9);
         read(x, "do 1 from 1", -6, 11);
+        x = new KeptPromises();
         read(x, "do 1 from 12 to 12", -6, 10);
         read(x, "do 1 from 111", -6, 12);
         read(x, "do 1 from 99x", -6, 10);
@@ -277,6 +278,8 @@ public final class PromisesTest {
         read(x, start + " if 0=2", -6, 22);
         read(x, start + " if 0 =1", -6, 21);
         read(x, start + " if 0=1 after 0", -6, 24);
+        due("status(16)", x.status(16), 13);
+        x = with("do 1 from 0 to 1", "free from 0 to 0");
         read(x, start + " owe 100", -6, 23);
         read(x, start + " owe x", -6, 21);
         read(x, start + " owe", -6, 20);
@@ -290,7 +293,7 @@ public final class PromisesTest {
         read(x, "never 1 from 3 to 4 after 0", -6, 20);
         read(x, "free from 3 to 4 with 0", -6, 17);
         read(x, "free from 3 to 4 after 0", -6, 17);
-        due("status(16)", x.status(16), 26);
+        due("status(16)", x.status(16), 13);
         read(x, start + " with 0 after 0 if 1=1 owe 07 for 4", 2, -1);
         int[] told = {1, 3, 4, 0, 0, 1, 1, 7, 4, 1, 1, 0};
         about = 11;
