@@ -5,6 +5,8 @@ public final class TermsOfBreakingBoundaryTest extends Bounds {
     public static void main(String[] args) throws IOException {
         quarrels();
         leastOwed();
+        leastOwedOfThoseThatWait();
+        leastOwedAgain();
         leastOwedOfLostOnes();
         fewest();
         ends();
@@ -91,6 +93,55 @@ public final class TermsOfBreakingBoundaryTest extends Bounds {
         due("fewest(0) with no HANDS", all.fewest(0), 6);
     }
 
+    private static final String LEAST_OWED = "over ways to break some NEVER and FREE ones altogether (their OWED once, if ASKED) "
+        + "and sets for HOURS that MAY be done beside the others: the sum of OWED of these and of ASKED WORKS that are LOST in "
+        + "the end or now";
+
+    private static void leastOwedOfThoseThatWait() {
+        of(-3, LEAST_OWED);
+        String[] texts = {"do 1 from 0 to 5 owe 1", "do 1 from 0 to 5 owe 1", "do 1 from 8 to 8 owe 1", "do 1 from 8 to 8 owe 5"};
+        for (int first = 0; first < 2; first++) {
+            KeptPromises x = made(texts);
+            x.swap(1 - first, first);
+            due("dear(0), two that are kept one after the other", x.dear(0), 1);
+            due("fewest(0)", x.fewest(0), 1);
+            x.hands(8, 2);
+            due("dear(0), all kept", x.dear(0), 0);
+            due("fewest(0), all kept", x.fewest(0), 0);
+        }
+        // The one that is done owes nothing, though what it is told to be after now can't be done.
+        KeptPromises done = made("do 1 from 0 to 5 owe 7", "do 1 from 3 to 3 owe 2", "do 1 from 5 to 5 owe 1");
+        done.work(1);
+        done.swap(0, 1);
+        done.hands(3, 0);
+        due("dear(0) of one that is done", done.dear(0), 2);
+        due("fewest(0) of one that is done", done.fewest(0), 1);
+        KeptPromises past = made("do 1 from 0 to 0 if 0=1 owe 7", "do 1 from 3 to 3 owe 2");
+        past.work(0);
+        past.swap(0, 1);
+        past.hands(3, 0);
+        due("dear(1) of one that is over", past.dear(1), 2);
+        due("fewest(1) of one that is over", past.fewest(1), 1);
+    }
+
+    private static void leastOwedAgain() {
+        of(-3, LEAST_OWED);
+        KeptPromises x = made("do 1 from 8 to 8 owe 1", "do 1 from 8 to 8 owe 5", "do 1 from 3 to 3 if 0=1 owe 7");
+        x.hands(3, 0);
+        x.hands(8, 0);
+        due("dear(1) with no HANDS", x.dear(1), 13);
+        due("fewest(1) with no HANDS", x.fewest(1), 3);
+        due("dear(0) with no HANDS", x.dear(0), 6);
+        x.hands(8, 1);
+        due("dear(0) with one", x.dear(0), 1);
+        due("fewest(0) with one", x.fewest(0), 1);
+        due("dear(1) with one", x.dear(1), 8);
+        x.hands(3, 1);
+        due("dear(1) with one of each", x.dear(1), 1);
+        x.hands(8, 2);
+        due("dear(1) with all", x.dear(1), 0);
+    }
+
     private static void leastOwedOfLostOnes() {
         of(-3, "the sum of OWED of these and of ASKED WORKS that are LOST in the end or now");
         KeptPromises x = made("do 1 from 0 to 0 owe 9", "do 1 from 0 to 0 if 0=0 owe 20", "do 1 from 3 to 3 owe 5");
@@ -155,6 +206,10 @@ public final class TermsOfBreakingBoundaryTest extends Bounds {
         due("ends(2, 2), not KNOWN so soon", x.ends(2, 2), 905);
         x.hands(5, 0);
         due("ends(2, 2), without HANDS then", x.ends(2, 2), 906);
+        KeptPromises lost = made("do 1 from 0 to 0", "do 1 from 0 to 5");
+        due("doomed(1, 0) ahead of it", lost.doomed(1, 0), 0);
+        lost.work(0);
+        due("ends(1, 0) beside a LOST one", lost.ends(1, 0), -5);
         due("work(1)", x.work(1), 0);
         due("ends(0, 0) of one that is done", x.ends(0, 0), -5);
         due("work(2)", x.work(2), 0);

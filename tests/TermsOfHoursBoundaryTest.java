@@ -427,6 +427,15 @@ public final class TermsOfHoursBoundaryTest extends Bounds {
                 due("fewest(0) of both", x.fewest(0), b == 1 ? 1 : 0);
             }
         }
+        for (int a = 0; a < 4; a++) {
+            for (int b = 0; b < 4; b++) {
+                KeptPromises x = made("do 1 from 0 to 1 with " + a, "do 1 from 0 to 2 with " + b, "do 1 from 0 to 0");
+                due("can(0) with " + a + " and " + b, x.can(0), 1);
+                x.hands(1, 2);
+                x.hands(2, 0);
+                due("can(0) with " + a + " and " + b + " in one HOUR", x.can(0), a == b ? 0 : 1);
+            }
+        }
         KeptPromises two = made(texts[3], texts[3]);
         hands.on(two);
         due("can(0) without a THING", two.can(0), 1);
@@ -458,6 +467,16 @@ public final class TermsOfHoursBoundaryTest extends Bounds {
         due("can(0), the one ahead being too late", made(both(with(early, late, early), few, x -> x.swap(0, 1),
             x -> x.swap(2, -1))).can(0), 0);
         due("can(0), the one ahead being in time", made(both(with(late, early), few, x -> x.swap(0, 1))).can(0), 1);
+        String three = "do 3 from 0 to 2";
+        KeptPromises six = made(three, three + " after 0", three + " after 1", three + " after 2", three + " after 3", three + " after 4");
+        due("can(0) of six that wait for each other far too long", six.can(0), 0);
+        due("all() of six that wait for each other far too long", six.all(), 0);
+        due("fewest(0) of six that wait for each other far too long", six.fewest(0), 5);
+        KeptPromises done = made("do 1 from 0 to 2", "do 1 from 3 to 5");
+        done.work(1);
+        done.swap(0, 1);
+        due("can(0) of one that is done and told to be after a later one", done.can(0), 1);
+        hours(done, 0, 0, 0, 0, 0, 2);
     }
 
     private static void outside() {
@@ -568,6 +587,12 @@ public final class TermsOfHoursBoundaryTest extends Bounds {
             y.known(f, 5);
             due("all() of an if KNOWN too late", y.all(), 0);
         }
+        KeptPromises later = made("do 1 from 4 to 5", "do 1 from 9 to 9 if 1=1", "free from 4 to 4 if 0=1", "free from 5 to 5 if 0=0");
+        later.known(0, 5);
+        later.known(1, 9);
+        due("all() of one that has but two HOURS", later.all(), 0);
+        later.known(0, 4);
+        due("all() of one that has but two HOURS, KNOWN in time", later.all(), 1);
         KeptPromises either = made("do 1 from 2 to 2 if 0=0", "do 1 from 2 to 2 if 0=1", "do 2 from 0 to 1");
         either.known(0, 2);
         due("all() of two of which one comes", either.all(), 1);
